@@ -482,8 +482,7 @@ public final class BookExchange {
     }
 
     private void pullQuotes() {
-        for (int i = 0; i < house.members.length; i++) {
-            Member member = house.members[i];
+        for (Member member : house.members) {
             if (member.protection > 0 && member.quoteTraded > member.protection) {
                 floor.withdrawQuotes(member, null);
             }
@@ -516,6 +515,8 @@ public final class BookExchange {
         int protection;
         // What orders of its quotes have traded by the call that goes on.
         int quoteTraded;
+        // What it gives up of a position in the tear-up that goes on.
+        int given;
         int bidAmount;
         boolean hasBid;
         boolean isOut;
@@ -527,13 +528,6 @@ public final class BookExchange {
         int positionIn(Contract contract) {
             int at = contract.number;
             return at >= 0 && at < positions.length ? positions[at] : 0;
-        }
-
-        void addPosition(Contract contract, int size) {
-            int at = contract.number;
-            if (at >= 0 && at < positions.length) {
-                positions[at] += size;
-            }
         }
     }
 
@@ -555,8 +549,11 @@ public final class BookExchange {
 
         /** Moves a size and what it costs; a size below 0 moves them back. */
         void settle(int moved) {
-            buyer.addPosition(contract, moved);
-            seller.addPosition(contract, -moved);
+            int at = contract.number;
+            if (at >= 0 && at < buyer.positions.length && at < seller.positions.length) {
+                buyer.positions[at] += moved;
+                seller.positions[at] -= moved;
+            }
             buyer.cash -= price * moved;
             seller.cash += price * moved;
         }
@@ -577,6 +574,8 @@ public final class BookExchange {
         int left;
         int shown;
         int stamp;
+        // What it trades in the step that goes on, where shares are counted.
+        int portion;
         // The resting order of its book and side that it is the next better one of.
         Order next;
 
@@ -602,12 +601,12 @@ public final class BookExchange {
             return isBuy ? tradePrice >= trigger : tradePrice <= trigger;
         }
 
-        boolean hasBetterPriceThan(Order other) {
-            return isBuy ? price > other.price : price < other.price;
-        }
-
+        /** Tells which one of two orders of a book and side is better. */
         boolean isBetterThan(Order other) {
-            return price == other.price ? stamp < other.stamp : hasBetterPriceThan(other);
+            if (price == other.price) {
+                return stamp < other.stamp;
+            }
+            return isBuy ? price > other.price : price < other.price;
         }
 
         void showAnew() {
@@ -623,6 +622,7 @@ public final class BookExchange {
         final Contract second;
         int phase = SHUT;
         boolean isShares;
+        // Behind either of them those that are worse, one by one.
         private Order bestBuy;
         private Order bestSell;
 
@@ -643,36 +643,40 @@ public final class BookExchange {
         /** Puts in an order whose stamp is later than all others. */
         void insert(Order order) {
             Order before = null;
-            Order behind = bestOn(order.isBuy);
-            while (behind != null && !order.hasBetterPriceThan(behind)) {
+            Order behind = order.isBuy ? bestBuy : bestSell;
+            int sign = order.isBuy ? 1 : -1;
+            while (behind != null && sign * behind.price >= sign * order.price) {
                 before = behind;
                 behind = behind.next;
             }
             order.next = behind;
-            link(before, order, order.isBuy);
+            if (before != null) {
+                before.next = order;
+            } else if (order.isBuy) {
+                bestBuy = order;
+            } else {
+                bestSell = order;
+            }
         }
 
         void remove(Order order) {
             Order before = null;
-            Order at = bestOn(order.isBuy);
+            Order at = order.isBuy ? bestBuy : bestSell;
             while (at != null && at != order) {
                 before = at;
                 at = at.next;
             }
-            if (at != null) {
-                link(before, at.next, order.isBuy);
-                at.next = null;
+            if (at == null) {
+                return;
             }
-        }
-
-        private void link(Order before, Order behind, boolean isBuy) {
             if (before != null) {
-                before.next = behind;
-            } else if (isBuy) {
-                bestBuy = behind;
+                before.next = at.next;
+            } else if (order.isBuy) {
+                bestBuy = at.next;
             } else {
-                bestSell = behind;
+                bestSell = at.next;
             }
+            at.next = null;
         }
     }
 
@@ -743,8 +747,8 @@ public final class BookExchange {
 
         int fundsOf(Member member) {
             int funds = member.collateral + member.cash;
-            for (int i = 0; i < contracts.length; i++) {
-                funds += member.positionIn(contracts[i]) * contracts[i].mark;
+            for (Contract contract : contracts) {
+                funds += member.positionIn(contract) * contract.mark;
             }
             return funds;
         }
@@ -754,10 +758,10 @@ public final class BookExchange {
             int margin = 0;
             for (int scenario = 0; scenario < SCENARIOS; scenario++) {
                 int loss = 0;
-                for (int i = 0; i < contracts.length; i++) {
-                    int position = member.positionIn(contracts[i]);
-                    position += added == null ? 0 : added.positionIn(contracts[i]);
-                    loss -= position * moveOf(scenario, i);
+                for (Contract contract : contracts) {
+                    int position = member.positionIn(contract);
+                    position += added == null ? 0 : added.positionIn(contract);
+                    loss -= position * moveOf(scenario, contract.number);
                 }
                 margin = Math.max(margin, loss);
             }
@@ -783,22 +787,22 @@ public final class BookExchange {
         }
 
         void forgetQuoteTrades() {
-            for (int i = 0; i < members.length; i++) {
-                members[i].quoteTraded = 0;
+            for (Member member : members) {
+                member.quoteTraded = 0;
             }
         }
 
         int countBids() {
             int count = 0;
-            for (int i = 0; i < members.length; i++) {
-                count += members[i].hasBid ? 1 : 0;
+            for (Member member : members) {
+                count += member.hasBid ? 1 : 0;
             }
             return count;
         }
 
         void forgetBids() {
-            for (int i = 0; i < members.length; i++) {
-                members[i].hasBid = false;
+            for (Member member : members) {
+                member.hasBid = false;
             }
         }
     }
@@ -1014,14 +1018,13 @@ public final class BookExchange {
         }
     }
 
-    /** Matches an order that comes; what one step takes and trades stands in rows that each step uses again. */
+    /** Matches an order that comes; what a step takes and trades stands in rows that each step uses again. */
     private static final class Matching {
         private final House house;
         private final Floor floor;
         private final Ways ways;
-        private final Order[] taken = new Order[MOST_ORDERS];
-        private final int[] portions = new int[MOST_ORDERS];
-        private int takenCount;
+        private final ArrayList<Order> taken = new ArrayList<Order>();
+        // The contracts of a step that bands hold, with their prices.
         private final Contract[] traded = new Contract[LEGS];
         private final int[] tradedPrices = new int[LEGS];
         private int tradedCount;
@@ -1061,7 +1064,7 @@ public final class BookExchange {
         }
 
         private void gather(Order order, int way) {
-            takenCount = 0;
+            taken.clear();
             if (way == 0 && order.book.isShares) {
                 gatherLevel(order.book.bestOn(!order.isBuy));
                 return;
@@ -1069,53 +1072,46 @@ public final class BookExchange {
             for (int i = 0; i < LEGS; i++) {
                 Order found = ways.orderFor(ways.legAt(order.book, way, i), order.isBuy);
                 if (found != null) {
-                    addTaken(found);
+                    taken.add(found);
                 }
             }
         }
 
         private void gatherLevel(Order best) {
             for (Order at = best; at != null && at.price == best.price; at = at.next) {
-                addTaken(at);
-            }
-        }
-
-        private void addTaken(Order order) {
-            if (takenCount < taken.length) {
-                taken[takenCount] = order;
-                takenCount++;
+                taken.add(at);
             }
         }
 
         private boolean withdrawOwn(Member member) {
             boolean isFound = false;
-            for (int i = 0; i < takenCount; i++) {
-                if (taken[i].member == member) {
-                    floor.withdraw(taken[i]);
+            for (int i = 0; i < taken.size(); i++) {
+                if (taken.get(i).member == member) {
+                    floor.withdraw(taken.get(i));
                     isFound = true;
                 }
             }
             return isFound;
         }
 
-        /** Lists the contracts of a step with their prices, but for the way 0 of a spread, which no band holds. */
+        /** Lists what a step trades, but for the way 0 of a spread, which no band holds. */
         private void planTrades(Order order, int way, int price) {
             tradedCount = 0;
             Book book = order.book;
-            if (!book.isSpread()) {
-                planChain(book.first, price, way == 0 ? 1 : takenCount);
-            } else if (way != 0 && takenCount > 1) {
-                addTraded(book.first, taken[0].price);
-                addTraded(book.second, taken[1].price);
+            if (book.second == null) {
+                planChain(book.first, price, way == 0 ? 1 : taken.size());
+            } else if (way != 0 && taken.size() > 1) {
+                addTraded(book.first, taken.get(0).price);
+                addTraded(book.second, taken.get(1).price);
             }
         }
 
         private void planChain(Contract first, int firstPrice, int length) {
             Contract contract = first;
             int price = firstPrice;
-            for (int i = 0; i < length && i < takenCount; i++) {
+            for (int i = 0; i < length && i < taken.size(); i++) {
                 addTraded(contract, price);
-                Order order = taken[i];
+                Order order = taken.get(i);
                 if (order.book.second != null) {
                     boolean isFirst = order.book.first == contract;
                     price += isFirst ? -order.price : order.price;
@@ -1125,7 +1121,7 @@ public final class BookExchange {
         }
 
         private void addTraded(Contract contract, int price) {
-            if (tradedCount < traded.length) {
+            if (tradedCount < traded.length && tradedCount < tradedPrices.length) {
                 traded[tradedCount] = contract;
                 tradedPrices[tradedCount] = price;
                 tradedCount++;
@@ -1134,7 +1130,7 @@ public final class BookExchange {
 
         private Contract lowestTooFar() {
             Contract lowest = null;
-            for (int i = 0; i < tradedCount; i++) {
+            for (int i = 0; i < tradedCount && i < traded.length; i++) {
                 boolean isLower = lowest == null || traded[i].number < lowest.number;
                 if (isLower && traded[i].isTooFar(tradedPrices[i])) {
                     lowest = traded[i];
@@ -1143,25 +1139,29 @@ public final class BookExchange {
             return lowest;
         }
 
-        /** Halts the book of a contract; tells whether the matching ends, as no other way can come of it. */
+        /** Halts the book of a contract; tells whether the matching ends, as the same way would come again. */
         private boolean endsByHalt(Contract far, Order order) {
             int halted = far.number;
             if (halted >= 0 && halted < floor.books.length) {
                 floor.books[halted].phase = HALTED;
             }
-            boolean isTaken = false;
-            for (int i = 0; i < takenCount; i++) {
-                isTaken |= taken[i].book.number == halted;
+            if (order.book.number == halted) {
+                return true;
             }
-            return order.book.number == halted || !isTaken;
+            for (int i = 0; i < taken.size(); i++) {
+                if (taken.get(i).book.number == halted) {
+                    return false;
+                }
+            }
+            return true;
         }
 
         private void tradeInBook(Order order, int price) {
             setPortions(order.left);
             floor.noteTrade(order.book, price);
-            for (int i = 0; i < takenCount; i++) {
-                Order other = taken[i];
-                int size = portions[i];
+            for (int i = 0; i < taken.size(); i++) {
+                Order other = taken.get(i);
+                int size = other.portion;
                 if (size > 0) {
                     Member buyer = order.isBuy ? order.member : other.member;
                     Member seller = order.isBuy ? other.member : order.member;
@@ -1175,51 +1175,65 @@ public final class BookExchange {
         /** Divides a size among the orders taken, of which there is one if the book matches by time. */
         private void setPortions(int most) {
             int shown = 0;
-            for (int i = 0; i < takenCount; i++) {
-                shown += taken[i].shown;
+            for (int i = 0; i < taken.size(); i++) {
+                shown += taken.get(i).shown;
             }
             int size = Math.min(most, shown);
-            int firstShown = takenCount > 0 ? taken[0].shown : 0;
-            int firstSize = Math.min(firstShown, size);
-            int shared = size - firstSize;
-            int rest = shared;
-            for (int i = 0; i < takenCount; i++) {
-                int others = shown - firstShown;
-                portions[i] = i == 0 ? firstSize : others > 0 ? shared * taken[i].shown / others : 0;
-                rest -= i == 0 ? 0 : portions[i];
+            int rest = size;
+            int others = 0;
+            int shared = 0;
+            for (int i = 0; i < taken.size(); i++) {
+                Order other = taken.get(i);
+                if (i == 0) {
+                    other.portion = Math.min(other.shown, size);
+                    shared = size - other.portion;
+                    others = shown - other.shown;
+                } else {
+                    other.portion = others > 0 ? shared * other.shown / others : 0;
+                }
+                rest -= other.portion;
             }
             divideRest(rest);
         }
 
         private void divideRest(int size) {
             int rest = size;
-            for (int turn = 0; rest > 0 && turn < MOST_SIZE; turn++) {
-                for (int i = 0; i < takenCount; i++) {
-                    if (rest > 0 && taken[i].shown > portions[i]) {
-                        portions[i]++;
-                        rest--;
-                    }
+            // Each share was rounded down by less than one, so one turn is enough.
+            for (int i = 0; i < taken.size(); i++) {
+                Order other = taken.get(i);
+                if (rest > 0 && other.shown > other.portion) {
+                    other.portion++;
+                    rest--;
                 }
             }
         }
 
         private void tradeByLegs(Order order, int price) {
             int size = order.left;
-            for (int i = 0; i < takenCount; i++) {
-                size = Math.min(size, taken[i].shown);
+            for (int i = 0; i < taken.size(); i++) {
+                size = Math.min(size, taken.get(i).shown);
             }
-            boolean isSpread = order.book.isSpread();
-            for (int i = 0; i < tradedCount && i < takenCount; i++) {
-                Member near = i == 0 || isSpread ? order.member : taken[i - 1].member;
-                Member other = taken[i].member;
-                boolean nearBuys = isSpread && i > 0 ? !order.isBuy : order.isBuy;
-                house.deal(traded[i], nearBuys ? near : other, nearBuys ? other : near, tradedPrices[i], size);
-            }
+            dealLegs(order, size);
             floor.noteTrade(order.book, price);
             floor.take(order, size);
-            for (int i = 0; i < takenCount; i++) {
-                floor.noteTrade(taken[i].book, taken[i].price);
-                floor.takeShown(taken[i], size);
+            for (int i = 0; i < taken.size(); i++) {
+                Order other = taken.get(i);
+                floor.noteTrade(other.book, other.price);
+                floor.takeShown(other, size);
+            }
+        }
+
+        /** By a spread the order trades with each one taken, otherwise each one taken with the next. */
+        private void dealLegs(Order order, int size) {
+            boolean isSpread = order.book.isSpread();
+            Member near = order.member;
+            for (int i = 0; i < tradedCount && i < traded.length && i < taken.size(); i++) {
+                Member other = taken.get(i).member;
+                boolean nearBuys = isSpread && i > 0 ? !order.isBuy : order.isBuy;
+                house.deal(traded[i], nearBuys ? near : other, nearBuys ? other : near, tradedPrices[i], size);
+                if (!isSpread) {
+                    near = other;
+                }
             }
         }
     }
@@ -1312,7 +1326,6 @@ public final class BookExchange {
 
     private static final class Defaults {
         private final House house;
-        private final int[] given = new int[MEMBERS];
 
         Defaults(House house) {
             this.house = house;
@@ -1321,8 +1334,7 @@ public final class BookExchange {
         /** The bidder who takes over the positions of a member in default; null if there is none. */
         Member takerFor(Member failed) {
             Member taker = null;
-            for (int i = 0; i < house.members.length; i++) {
-                Member member = house.members[i];
+            for (Member member : house.members) {
                 boolean isLess = taker == null || member.bidAmount < taker.bidAmount;
                 if (member.hasBid && isLess && canTake(member, failed)) {
                     taker = member;
@@ -1337,8 +1349,8 @@ public final class BookExchange {
         }
 
         void takeOver(Member failed, Member taker) {
-            for (int i = 0; i < house.contracts.length; i++) {
-                passOn(failed, taker, house.contracts[i], Math.abs(failed.positionIn(house.contracts[i])));
+            for (Contract contract : house.contracts) {
+                passOn(failed, taker, contract, Math.abs(failed.positionIn(contract)));
             }
             failed.cash -= taker.bidAmount;
             taker.cash += taker.bidAmount;
@@ -1353,28 +1365,28 @@ public final class BookExchange {
         }
 
         void tearUpAll(Member failed) {
-            for (int i = 0; i < house.contracts.length; i++) {
-                tearUp(failed, house.contracts[i]);
+            for (Contract contract : house.contracts) {
+                tearUp(failed, contract);
             }
         }
 
         private void tearUp(Member failed, Contract contract) {
             int size = Math.abs(failed.positionIn(contract));
             long all = 0;
-            for (int i = 0; i < house.members.length; i++) {
-                all += sizeAgainst(failed, house.members[i], contract);
+            for (Member member : house.members) {
+                all += sizeAgainst(failed, member, contract);
             }
             if (size == 0 || all <= 0) {
                 return;
             }
             int rest = size;
-            for (int i = 0; i < house.members.length && i < given.length; i++) {
-                given[i] = (int) ((long) sizeAgainst(failed, house.members[i], contract) * size / all);
-                rest -= given[i];
+            for (Member member : house.members) {
+                member.given = (int) ((long) sizeAgainst(failed, member, contract) * size / all);
+                rest -= member.given;
             }
-            divideRest(failed, contract, rest);
-            for (int i = 0; i < house.members.length && i < given.length; i++) {
-                passOn(failed, house.members[i], contract, given[i]);
+            giveUpRest(failed, contract, rest);
+            for (Member member : house.members) {
+                passOn(failed, member, contract, member.given);
             }
         }
 
@@ -1385,14 +1397,13 @@ public final class BookExchange {
             return position > 0 && against < 0 || position < 0 && against > 0 ? Math.abs(position) : 0;
         }
 
-        private void divideRest(Member failed, Contract contract, int size) {
+        private void giveUpRest(Member failed, Contract contract, int size) {
             int rest = size;
-            for (int turn = 0; rest > 0 && turn < MEMBERS; turn++) {
-                for (int i = 0; i < house.members.length && i < given.length; i++) {
-                    if (rest > 0 && given[i] < sizeAgainst(failed, house.members[i], contract)) {
-                        given[i]++;
-                        rest--;
-                    }
+            // Each share was rounded down by less than one, so one turn is enough.
+            for (Member member : house.members) {
+                if (rest > 0 && member.given < sizeAgainst(failed, member, contract)) {
+                    member.given++;
+                    rest--;
                 }
             }
         }
@@ -1413,33 +1424,29 @@ public final class BookExchange {
         /** Takes a loss from the shares of all who are not OUT; answers what is left of it. */
         private int coverByShares(int loss) {
             long all = 0;
-            for (int i = 0; i < house.members.length; i++) {
-                all += house.members[i].isOut ? 0 : house.members[i].share;
+            for (Member member : house.members) {
+                all += member.isOut ? 0 : member.share;
             }
             if (all <= 0) {
                 return loss;
             }
             long covered = Math.min(loss, all);
             long rest = covered;
-            for (int i = 0; i < house.members.length; i++) {
-                Member member = house.members[i];
+            for (Member member : house.members) {
                 long part = member.isOut ? 0 : covered * member.share / all;
                 member.share -= (int) part;
                 rest -= part;
             }
-            takeOneByOne(rest);
+            coverRest(rest);
             return (int) (loss - covered);
         }
 
-        private void takeOneByOne(long size) {
+        private void coverRest(long size) {
             long rest = size;
-            for (int turn = 0; rest > 0 && turn < MEMBERS; turn++) {
-                for (int i = 0; i < house.members.length; i++) {
-                    Member member = house.members[i];
-                    if (rest > 0 && !member.isOut && member.share > 0) {
-                        member.share--;
-                        rest--;
-                    }
+            for (Member member : house.members) {
+                if (rest > 0 && !member.isOut && member.share > 0) {
+                    member.share--;
+                    rest--;
                 }
             }
         }
