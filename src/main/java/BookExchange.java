@@ -574,8 +574,10 @@ public final class BookExchange {
         int left;
         int shown;
         int stamp;
-        // What it trades in the step that goes on, where shares are counted.
+        // In the step that goes on: what it trades by the way 0, the contract that bands hold, and its price.
         int portion;
+        Contract traded;
+        int tradedPrice;
         // The resting order of its book and side that it is the next better one of.
         Order next;
 
@@ -1018,16 +1020,12 @@ public final class BookExchange {
         }
     }
 
-    /** Matches an order that comes; what a step takes and trades stands in rows that each step uses again. */
+    /** Matches an order that comes, step by step. */
     private static final class Matching {
         private final House house;
         private final Floor floor;
         private final Ways ways;
         private final ArrayList<Order> taken = new ArrayList<Order>();
-        // The contracts of a step that bands hold, with their prices.
-        private final Contract[] traded = new Contract[LEGS];
-        private final int[] tradedPrices = new int[LEGS];
-        private int tradedCount;
 
         Matching(House house, Floor floor, Ways ways) {
             this.house = house;
@@ -1094,52 +1092,49 @@ public final class BookExchange {
             return isFound;
         }
 
-        /** Lists what a step trades, but for the way 0 of a spread, which no band holds. */
+        /** Tells each order taken which contract it trades with the one before, and the price of that. */
         private void planTrades(Order order, int way, int price) {
-            tradedCount = 0;
             Book book = order.book;
             if (book.second == null) {
-                planChain(book.first, price, way == 0 ? 1 : taken.size());
-            } else if (way != 0 && taken.size() > 1) {
-                addTraded(book.first, taken.get(0).price);
-                addTraded(book.second, taken.get(1).price);
+                planChain(book.first, price);
+                return;
+            }
+            for (int i = 0; i < taken.size(); i++) {
+                Order other = taken.get(i);
+                // By its way 0 a spread trades both contracts with one order, and no band holds them.
+                other.traded = way == 0 ? null : i == 0 ? book.first : book.second;
+                other.tradedPrice = other.price;
             }
         }
 
-        private void planChain(Contract first, int firstPrice, int length) {
+        private void planChain(Contract first, int firstPrice) {
             Contract contract = first;
             int price = firstPrice;
-            for (int i = 0; i < length && i < taken.size(); i++) {
-                addTraded(contract, price);
-                Order order = taken.get(i);
-                if (order.book.second != null) {
-                    boolean isFirst = order.book.first == contract;
-                    price += isFirst ? -order.price : order.price;
-                    contract = isFirst ? order.book.second : order.book.first;
+            for (int i = 0; i < taken.size(); i++) {
+                Order other = taken.get(i);
+                other.traded = contract;
+                other.tradedPrice = price;
+                if (other.book.second != null) {
+                    boolean isFirst = other.book.first == contract;
+                    price += isFirst ? -other.price : other.price;
+                    contract = isFirst ? other.book.second : other.book.first;
                 }
-            }
-        }
-
-        private void addTraded(Contract contract, int price) {
-            if (tradedCount < traded.length && tradedCount < tradedPrices.length) {
-                traded[tradedCount] = contract;
-                tradedPrices[tradedCount] = price;
-                tradedCount++;
             }
         }
 
         private Contract lowestTooFar() {
             Contract lowest = null;
-            for (int i = 0; i < tradedCount && i < traded.length; i++) {
-                boolean isLower = lowest == null || traded[i].number < lowest.number;
-                if (isLower && traded[i].isTooFar(tradedPrices[i])) {
-                    lowest = traded[i];
+            for (int i = 0; i < taken.size(); i++) {
+                Contract traded = taken.get(i).traded;
+                boolean isFar = traded != null && traded.isTooFar(taken.get(i).tradedPrice);
+                if (isFar && (lowest == null || traded.number < lowest.number)) {
+                    lowest = traded;
                 }
             }
             return lowest;
         }
 
-        /** Halts the book of a contract; tells whether the matching ends, as the same way would come again. */
+        /** Halts the book of a contract; tells whether the matching ends by it. */
         private boolean endsByHalt(Contract far, Order order) {
             int halted = far.number;
             if (halted >= 0 && halted < floor.books.length) {
@@ -1208,32 +1203,28 @@ public final class BookExchange {
             }
         }
 
+        /** By a spread the order trades with each one taken, otherwise each one taken with the next. */
         private void tradeByLegs(Order order, int price) {
             int size = order.left;
             for (int i = 0; i < taken.size(); i++) {
                 size = Math.min(size, taken.get(i).shown);
             }
-            dealLegs(order, size);
+            boolean isSpread = order.book.isSpread();
+            Member near = order.member;
             floor.noteTrade(order.book, price);
             floor.take(order, size);
             for (int i = 0; i < taken.size(); i++) {
-                Order other = taken.get(i);
-                floor.noteTrade(other.book, other.price);
-                floor.takeShown(other, size);
-            }
-        }
-
-        /** By a spread the order trades with each one taken, otherwise each one taken with the next. */
-        private void dealLegs(Order order, int size) {
-            boolean isSpread = order.book.isSpread();
-            Member near = order.member;
-            for (int i = 0; i < tradedCount && i < traded.length && i < taken.size(); i++) {
-                Member other = taken.get(i).member;
+                Order leg = taken.get(i);
+                Member other = leg.member;
                 boolean nearBuys = isSpread && i > 0 ? !order.isBuy : order.isBuy;
-                house.deal(traded[i], nearBuys ? near : other, nearBuys ? other : near, tradedPrices[i], size);
+                if (leg.traded != null) {
+                    house.deal(leg.traded, nearBuys ? near : other, nearBuys ? other : near, leg.tradedPrice, size);
+                }
                 if (!isSpread) {
                     near = other;
                 }
+                floor.noteTrade(leg.book, leg.price);
+                floor.takeShown(leg, size);
             }
         }
     }

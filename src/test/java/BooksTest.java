@@ -133,10 +133,11 @@ public final class BooksTest extends Shorthand {
         // At 105 and 106: 8 against 7; at 109: 5 against 7.
         due("p29 the greatest size ahead of the least gap", x.auction(1), 105);
         x.call(0);
-        x.order(0, 0, true, 110, 5, 5);
-        x.order(1, 0, false, 100, 2, 2);
-        x.order(1, 0, false, 110, 8, 8);
-        due("p29 at 110 5 with a gap of 5, at 100 2 with a gap of 3", x.auction(0), 110);
+        x.order(0, 0, true, 100, 10, 10);
+        x.order(0, 0, true, 110, 2, 2);
+        x.order(1, 0, false, 100, 5, 5);
+        x.order(1, 0, false, 110, 1, 1);
+        due("p29 at 100 5 with a gap of 7, at 110 2 with a gap of 4", x.auction(0), 100);
         x.call(2);
         x.order(0, 2, true, 110, 3, 3);
         x.order(0, 2, true, 90, 2, 2);

@@ -430,6 +430,8 @@ public final class OrdersTest extends Shorthand {
         due("p15 4 by one call, and 3 by the auction", y.uncross(2), 3);
         due("p15 are two calls", y.state(kept), BookExchange.RESTING);
         y.order(0, 0, false, 97, 3, 3);
+        kept = y.quote(1, 2, 95, 105, 4);
+        y.now(0, 2, true, 105, 3);
         int again = y.quote(1, 0, 97, 105, 4);
         due("p15 so are 3 and the 3 that a new quote trades", y.left(again), 1);
         due("p15 none is pulled", y.state(again) + y.state(kept), 2 * BookExchange.RESTING);
