@@ -727,7 +727,8 @@ public final class BookExchange {
         /** Lets two orders of the same book trade, whose price tells nothing of a mark if it is a spread. */
         void dealInBook(Book book, Member buyer, Member seller, int price, int size) {
             if (book.second == null) {
-                deal(book.first, buyer, seller, price, size);
+                record(book.first, buyer, seller, price, size);
+                book.first.mark = price;
             } else {
                 int mark = book.second.mark;
                 record(book.second, seller, buyer, mark, size);

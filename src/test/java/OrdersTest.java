@@ -435,6 +435,10 @@ public final class OrdersTest extends Shorthand {
         int again = y.quote(1, 0, 97, 105, 4);
         due("p15 so are 3 and the 3 that a new quote trades", y.left(again), 1);
         due("p15 none is pulled", y.state(again) + y.state(kept), 2 * BookExchange.RESTING);
+        y.now(0, 0, true, 105, 3);
+        y.now(0, 0, true, 105, 1);
+        y.now(0, 2, true, 105, 3);
+        due("p15 nor do orders for now count together", y.state(kept), BookExchange.RESTING);
         int f = x.order(2, 2, true, 90, 1, 1);
         x.now(0, 2, false, 90, 1);
         due("p15 what is no quote does not count", x.state(f), BookExchange.DONE);
