@@ -7,15 +7,25 @@ public final class Checks {
     public static final long INDEX = 1L << 40, ARGUMENT = 2L << 40, STATE = 3L << 40;
     private static int asked = 0;
     private static int wrong = 0;
+    private static String where = "";
 
     private Checks() {
+    }
+
+    /** Tells what the questions from now on belong to. */
+    public static void within(String part) {
+        where = part;
+    }
+
+    public static int asked() {
+        return asked;
     }
 
     public static void due(String what, long got, long want) {
         asked++;
         if (got != want) {
             wrong++;
-            System.out.println(what + " answered " + named(got) + ", due is " + named(want));
+            System.out.println(where + what + " answered " + named(got) + ", due is " + named(want));
         }
     }
 
