@@ -235,7 +235,9 @@ final class PromisesOfMembers extends Shorthand {
             BookExchange x = Setups.open();
             Setups.trade(x, 0, 1, 0, 100, 100);
             due("without moves", x.margin(0), 0);
-            x.setMove(5, 0, 500);
+            for (int s = 0; s < 6; s++) {
+                x.setMove(s, 0, 500);
+            }
             due("at least 0", x.margin(0), 0);
             due("the greatest", x.margin(1), 50000);
             x.bust(0);

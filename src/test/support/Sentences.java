@@ -27,6 +27,11 @@ public final class Sentences {
     }
 
     public static void begin() throws IOException {
+        if (!Files.exists(DOCUMENT)) {
+            // The tests hold without it, but not that there is one for each sentence.
+            System.out.println("there is no " + DOCUMENT + ": its sentences are not looked up");
+            return;
+        }
         LINES.addAll(Files.readAllLines(DOCUMENT));
         for (String line : LINES) {
             if (line.startsWith("##")) {
@@ -39,6 +44,9 @@ public final class Sentences {
     public static void part(String wanted) {
         endPart();
         heading = wanted;
+        if (LINES.isEmpty()) {
+            return;
+        }
         Checks.due(heading + " is a heading of the document", HEADINGS_LEFT.remove(heading), true);
         StringBuilder found = new StringBuilder();
         boolean isInside = false;
@@ -60,7 +68,11 @@ public final class Sentences {
         tested++;
         int before = Checks.asked();
         Checks.within(heading + ": \"" + sentence + "\": ");
-        test.run();
+        try {
+            test.run();
+        } catch (RuntimeException e) {
+            Checks.due("a call threw " + e + ", as none", false, true);
+        }
         Checks.within("");
         Checks.due(heading + ": \"" + sentence + "\" is asked for", Checks.asked() > before, true);
     }
@@ -75,6 +87,9 @@ public final class Sentences {
     }
 
     private static void tell(String first, String last) {
+        if (LINES.isEmpty()) {
+            return;
+        }
         int from = text.indexOf(first);
         while (from >= 0 && isTold[from]) {
             from = text.indexOf(first, from + 1);

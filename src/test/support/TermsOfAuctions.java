@@ -108,6 +108,9 @@ final class TermsOfAuctions extends Shorthand {
         Sentences.says("of several the one nearest to the mark of the contract,", () -> {
             duePrice("99: 9 and 11 away", called(0, 99, of(110, 5), of(90, 5)), 0, 90, 5);
             duePrice("101: 11 and 9 away", called(0, 101, of(110, 5), of(90, 5)), 0, 110, 5);
+            // At 95 and 90: 6 and 5; at 110 and 100: 5 and 6: 4, 9, 11 and 1 away from 99.
+            duePrice("from below and from above", called(0, 99, of(110, 5, 95, 1), of(90, 5, 100, 1)), 0, 100, 5);
+            duePrice("from above and from below", called(0, 96, of(110, 5, 95, 1), of(90, 5, 100, 1)), 0, 95, 5);
             BookExchange x = called(1, 101, of(110, 5), of(90, 5));
             x.setBand(1, 1, 999);
             duePrice("the middle does not matter", x, 1, 110, 5);
@@ -350,7 +353,38 @@ final class TermsOfAuctions extends Shorthand {
             buys(y, 1, 1, 95, 9);
             y.now(0, 1, false, 95, 9);
             due("what is no quote does not count", y.state(0), BookExchange.RESTING);
+            for (int kind = 0; kind < 4; kind++) {
+                due("3 by a call, and 3 by one of another kind", tradedTwice(kind, 3), BookExchange.RESTING);
+                due("3 by a call, and 4", tradedTwice(kind, 4), BookExchange.CANCELLED);
+            }
         });
+    }
+
+    /** What becomes of quotes with a protection of 3 when they trade 3 by a call, and then by another one. */
+    private static int tradedTwice(int kind, int second) {
+        BookExchange x = Setups.open();
+        x.protect(1, 3);
+        if (kind == 3) {
+            x.call(1);
+        }
+        int quote = x.quote(1, 1, 95, 105, 9), kept = x.quote(1, 2, 95, 105, 9);
+        if (kind == 2) {
+            sells(x, 0, 0, 95, second);
+        } else if (kind == 3) {
+            sells(x, 0, 1, 95, second);
+        }
+        x.now(0, 2, true, 105, 3);
+        due("3 are not too many", x.state(quote) + x.state(kept), 2 * BookExchange.RESTING);
+        if (kind == 0) {
+            x.order(0, 1, false, 95, second, second);
+        } else if (kind == 1) {
+            x.now(0, 1, false, 95, second);
+        } else if (kind == 2) {
+            x.quote(1, 0, 95, 105, 9);
+        } else {
+            due("uncrossed", x.uncross(1), second);
+        }
+        return x.state(kept);
     }
 
     private static void lookedAt() {

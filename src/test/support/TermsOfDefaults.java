@@ -65,6 +65,12 @@ final class TermsOfDefaults extends Shorthand {
                 x.setMove((s + 2) % 6, 0, -1);
                 due("the greatest of three", x.margin(0), 6);
             }
+            BookExchange gains = holding();
+            for (int s = 0; s < 6; s++) {
+                gains.setMove(s, 0, 5);
+            }
+            due("a gain by all scenarios", gains.margin(0), 0);
+            due("which is a loss of the other side", gains.margin(1), 15);
             due("without moves", holding().margin(0), 0);
             due("without positions", holding().margin(5), 0);
         });
@@ -148,6 +154,18 @@ final class TermsOfDefaults extends Shorthand {
             x.setMove(1, 2, 0);
             x.setMove(0, 0, 0);
             due("at least 0", x.need(0), 0);
+            BookExchange gains = holding();
+            for (int s = 0; s < 6; s++) {
+                gains.setMove(s, 0, 5);
+            }
+            buys(gains, 0, 0, 50, 100);
+            sells(gains, 0, 0, 150, 2);
+            due("at least 0, though all scenarios gain", gains.need(0), 0);
+            gains.deposit(0, -1000000);
+            due("that are its funds", gains.funds(0), 0);
+            sells(gains, 0, 0, 150, 1);
+            due("3 sold of 3 gain nothing", gains.need(0), 0);
+            due("4 would lose", sells(gains, 0, 0, 150, 1), BookExchange.NONE);
         });
     }
 
@@ -234,6 +252,16 @@ final class TermsOfDefaults extends Shorthand {
         Sentences.says("When a member is put in default, all its orders are CANCELLED.", () -> {
             BookExchange x = broken();
             x.deposit(0, 50);
+            BookExchange first = new BookExchange();
+            first.call(2);
+            first.order(0, 2, true, 100, 1, 1);
+            first.call(0);
+            first.order(0, 0, true, 100, 3, 3);
+            first.order(1, 0, false, 100, 3, 3);
+            first.uncross(0);
+            first.setMove(0, 0, -1);
+            first.fail(0);
+            due("the very first one", first.state(0), BookExchange.CANCELLED);
             int rests = buys(x, 0, 1, 50, 4), quote = x.quote(0, 3, -5, 5, 2), waits = x.stop(0, 2, true, 50, 4, 120);
             x.call(4);
             int called = buys(x, 0, 4, 0, 3), other = buys(x, 1, 1, 40, 4);
@@ -401,6 +429,8 @@ final class TermsOfDefaults extends Shorthand {
             one = torn(7, 1, 3, 6);
             // 0.7, 2.1, 4.2: 0, 2 and 4, and one more of the first.
             due("7 of 10", one[0] * 100 + one[1] * 10 + one[2], 124);
+            due("1 of 1 who has bought", tornShort(1), 0);
+            due("2 of 1 and 1 who have", tornShort(2), 0);
             one = torn(5, 0, 3, 3);
             due("one that has none gives up none", one[0] * 100 + one[1] * 10 + one[2], 32);
         });
@@ -441,6 +471,20 @@ final class TermsOfDefaults extends Shorthand {
         }
         due("0 has none", x.position(0, 0), 0);
         return given;
+    }
+
+    /** What 1 and 2 have together behind a tear-up, who have bought 1 each, all of it from 0 or the rest from 5. */
+    private static int tornShort(int by0) {
+        BookExchange x = Setups.open();
+        Setups.trade(x, 1, 0, 0, 100, 1);
+        if (by0 > 1) {
+            Setups.trade(x, 2, 0, 0, 100, 1);
+        }
+        x.deposit(0, -1000000);
+        x.setMove(0, 0, 1);
+        due("nobody takes over", x.fail(0), BookExchange.NONE);
+        due("0 has none", x.position(0, 0), 0);
+        return x.position(1, 0) + x.position(2, 0);
     }
 
     private static BookExchange tornUp(int of, int... sold) {
@@ -548,7 +592,10 @@ final class TermsOfDefaults extends Shorthand {
             due("all of 50", shared(20, 20, 5, 5), 0);
             due("all of 49", shared(20, 20, 5, 4), 0);
             due("50 of 51: 20.6, 19.6, 5.9 and 3.9, and three more", shared(21, 20, 6, 4), 1);
-            due("the greatest share", shared(99, 0, 0, 0), 49000000);
+            due("50 of one alone", shared(99, 0, 0, 0), 49000000);
+            due("50 of as much", shared(50, 0, 0, 0), 0);
+            due("50 of 1", shared(1, 0, 0, 0), 0);
+            due("50 of none", shared(0, 0, 0, 0), 0);
         });
         Sentences.says("then each of them in turn, by rising numbers, one more, that has some, until that is taken;", () -> {
             // 50 of 150: a third of each, rounded down 16, 16, 16 and 0; one more each of the first two.

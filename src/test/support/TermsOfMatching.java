@@ -300,6 +300,13 @@ final class TermsOfMatching extends Shorthand {
             due("the book 1 is HALTED", y.phase(1), BookExchange.HALTED);
             due("it is one of them: then the way 0 at 150 is taken", y.trades(), 1);
             dueTrade(y, 0, 0, 0, 4, 150, 1);
+            BookExchange z = Setups.open();
+            z.setBand(0, 500, 0);
+            sells(z, 1, 0, 105, 1);
+            buys(z, 2, 1, 100, 1);
+            sells(z, 3, 3, 8, 1);
+            z.now(4, 3, true, 8, 1);
+            due("the first one of them: then the way 0 of the spread is taken", z.trades() * 10 + z.phase(0), 23);
         });
     }
 
@@ -344,6 +351,15 @@ final class TermsOfMatching extends Shorthand {
             sells(x, i + 1, 2, 100, sizes[i]);
         }
         return x;
+    }
+
+    /** The sizes of all trades, one digit each. */
+    private static int sizes(BookExchange x) {
+        int digits = 0;
+        for (int t = 0; t < x.trades(); t++) {
+            digits = digits * 10 + x.trade(t, BookExchange.SIZE);
+        }
+        return digits;
     }
 
     /** What is left of the first orders, one digit each. */
@@ -458,6 +474,13 @@ final class TermsOfMatching extends Shorthand {
             x.now(0, 2, true, 100, 7);
             // 5 of 7: 2.1 and 2.9; the first one has traded all it shows.
             due("one more of the second one", lefts(x, 3), 2);
+            dueTrade(x, 1, 2, 0, 2, 100, 3);
+            dueTrade(x, 2, 2, 0, 3, 100, 2);
+            due("by the same trade, in one step", x.trades(), 3);
+            x = byShares(1, 2, 2, 2, 2);
+            x.now(0, 2, true, 100, 7);
+            // 6 of 8: 1.5 each, rounded down 1.
+            due("one more each of two", sizes(x), 12211);
             x = byShares(5, 1, 1, 1, 1);
             x.now(0, 2, true, 100, 7);
             due("2 of 4: one each of two", lefts(x, 5), 11);
